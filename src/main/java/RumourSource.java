@@ -51,7 +51,7 @@ public final class RumourSource {
         if (now.isFull()) {
             return FULL;
         }
-        record();
+        remember();
         return now.put(from, to, trust, delay);
     }
 
@@ -62,7 +62,7 @@ public final class RumourSource {
         if (!isTrust(trust) || !isDelay(delay)) {
             return BAD_VALUE;
         }
-        record();
+        remember();
         int before = now.trust[edge];
         now.trust[edge] = trust;
         now.delay[edge] = delay;
@@ -73,7 +73,7 @@ public final class RumourSource {
         if (!now.hasEdge(edge)) {
             return BAD_INDEX;
         }
-        record();
+        remember();
         now.drop(edge);
         return now.count;
     }
@@ -111,7 +111,7 @@ public final class RumourSource {
         if (!isTime(horizon)) {
             return BAD_VALUE;
         }
-        record();
+        remember();
         int before = now.horizon;
         now.horizon = horizon;
         return before;
@@ -147,7 +147,7 @@ public final class RumourSource {
         if (sensors < 0 || sensors > ALL_NODES) {
             return BAD_VALUE;
         }
-        record();
+        remember();
         int before = now.sensors;
         now.sensors = sensors;
         return before;
@@ -157,7 +157,7 @@ public final class RumourSource {
         if (!isStart(start)) {
             return BAD_VALUE;
         }
-        record();
+        remember();
         spread.follow(now, start, drawOutcome(x));
         int heard = 0;
         for (int node = 0; node < NODES; node++) {
@@ -284,9 +284,10 @@ public final class RumourSource {
     }
 
     public int possible() {
-        int found = candidates();
+        int found = 0;
         for (int low = 0; low < NODES; low++) {
-            for (int high = low + 1; high < NODES; high++) {
+            // where both are the same, it is a start of one node
+            for (int high = low; high < NODES; high++) {
                 found += countIfPossible(1 << low | 1 << high);
             }
         }
@@ -333,17 +334,17 @@ public final class RumourSource {
         if (code < 0 || code > 255) {
             return BAD_VALUE;
         }
-        if (text.length >= text.bytes.length) {
+        if (text.size >= text.bytes.length) {
             return FULL;
         }
-        text.bytes[text.length] = code;
-        text.length++;
-        return text.length;
+        text.bytes[text.size] = code;
+        text.size++;
+        return text.size;
     }
 
     public int clearText() {
-        int before = text.length;
-        text.length = 0;
+        int before = text.size;
+        text.size = 0;
         return before;
     }
 
@@ -355,7 +356,7 @@ public final class RumourSource {
         if (text.read(now) != NONE) {
             return BAD_STATE;
         }
-        record();
+        remember();
         now.copyFrom(text.draft);
         return now.count;
     }
@@ -410,7 +411,7 @@ public final class RumourSource {
     }
 
     /** Keeps the present state; the oldest scene's rows serve again when the history is full. */
-    private void record() {
+    private void remember() {
         if (kept >= past.length) {
             Scene oldest = past[0];
             for (int i = 1; i < past.length; i++) {
@@ -424,7 +425,7 @@ public final class RumourSource {
     }
 
     private int replaceSeen(int node, int told) {
-        record();
+        remember();
         int before = now.seen[node];
         now.seen[node] = told;
         return before;
@@ -610,9 +611,10 @@ public final class RumourSource {
             // a shortest way has fewer edges than there are nodes
             for (int round = 1; round < NODES; round++) {
                 for (int e = 0; e < scene.count; e++) {
-                    int arrival = arrivalBy(scene, e);
-                    if ((outcome >> e & 1) == 1 && arrival < times[scene.to[e]]) {
-                        times[scene.to[e]] = arrival;
+                    int target = scene.to[e];
+                    int arrival = (outcome >> e & 1) == 1 ? arrivalBy(scene, e) : NEVER;
+                    if (isNode(target) && arrival < times[target]) {
+                        times[target] = arrival;
                     }
                 }
             }
@@ -620,7 +622,11 @@ public final class RumourSource {
 
         /** When the rumour comes along an edge, if it works: NEVER if too late or not at all. */
         private int arrivalBy(Scene scene, int edge) {
-            int arrival = times[scene.from[edge]] + scene.delay[edge];
+            int source = scene.from[edge];
+            if (!isNode(source) || times[source] == NEVER) {
+                return NEVER;
+            }
+            int arrival = times[source] + scene.delay[edge];
             return arrival <= scene.horizon ? arrival : NEVER;
         }
 
@@ -671,12 +677,13 @@ public final class RumourSource {
                 collect(scene, decided, works, weight);
                 return;
             }
+            int target = scene.to[edge];
             int trust = scene.trust[edge];
             int all = decided | 1 << edge;
-            if (trust > 0) {
-                times[scene.to[edge]] = arrival;
+            if (trust > 0 && isNode(target)) {
+                times[target] = arrival;
                 decide(scene, depth + 1, all, works | 1 << edge, weight * trust);
-                times[scene.to[edge]] = NEVER;
+                times[target] = NEVER;
             }
             if (trust < MAX_TRUST) {
                 decide(scene, depth + 1, all, works, weight * (MAX_TRUST - trust));
@@ -688,7 +695,9 @@ public final class RumourSource {
             int next = NONE;
             int least = NEVER;
             for (int e = 0; e < scene.count; e++) {
-                if ((decided >> e & 1) == 1 || times[scene.to[e]] != NEVER) {
+                int target = scene.to[e];
+                boolean undecided = (decided >> e & 1) == 0;
+                if (!undecided || !isNode(target) || times[target] != NEVER) {
                     continue;
                 }
                 int arrival = arrivalBy(scene, e);
@@ -734,7 +743,7 @@ public final class RumourSource {
     /** The text, and the reading of it: its items change a draft, which load() takes over. */
     private static final class Text {
         private final int[] bytes = new int[MAX_TEXT];
-        private int length = 0;
+        private int size = 0;
         private final Scene draft = new Scene();
         private int at = 0;
         private int fault = NONE;
@@ -814,7 +823,7 @@ public final class RumourSource {
             nextByte();
             int first = at;
             int value = 0;
-            while (at < length && bytes[at] >= '0' && bytes[at] <= '9') {
+            while (at < size && bytes[at] >= '0' && bytes[at] <= '9') {
                 value = value * 10 + (bytes[at] - '0');
                 at++;
             }
@@ -829,10 +838,10 @@ public final class RumourSource {
 
         /** Goes to the next byte that is no blank; tells it, or NONE at the text's end. */
         private int nextByte() {
-            while (at < length && bytes[at] == BLANK) {
+            while (at < size && bytes[at] == BLANK) {
                 at++;
             }
-            return at < length ? bytes[at] : NONE;
+            return at < size ? bytes[at] : NONE;
         }
 
         /** Goes to the next byte that is no blank; tells the node that it names, or NONE. */

@@ -6,6 +6,7 @@ public final class SourcesTest {
     public static void main(String[] args) {
         Check check = new Check("SourcesTest");
         likelihood(check);
+        twelveEdgesThatMatter(check);
         candidates(check);
         belief(check);
         decoy(check);
@@ -37,6 +38,21 @@ public final class SourcesTest {
         x.observe(2, 3);
         x.setHorizon(2);
         check.due("likelihood(1), behind the horizon", x.likelihood(1), 0);
+    }
+
+    /** Three sources and four hearers: an outcome in which all twelve edges matter, and none works. */
+    private static void twelveEdgesThatMatter(Check check) {
+        RumourSource x = new RumourSource();
+        for (int e = 0; e < 12; e++) {
+            x.addEdge(e % 3, 3 + e / 3, 4, e % 5 + 1);
+        }
+        check.due("likelihood(7), nothing observed", x.likelihood(7), 1_000_000_000_000L);
+        check.due("explanation(7)", x.explanation(7), 0);
+        for (int node = 3; node < 7; node++) {
+            x.observe(node, -1);
+        }
+        check.due("likelihood(7), none works", x.likelihood(7), 2_176_782_336L);
+        check.due("explanation(7)", x.explanation(7), 0);
     }
 
     private static void candidates(Check check) {
@@ -100,6 +116,8 @@ public final class SourcesTest {
         y.observe(4, 0);
         check.due("decoy(7), the one that is needed", y.decoy(7), 4);
         check.due("decoy(4)", y.decoy(4), 0);
+        RumourSource z = Check.loaded("0=0;1=-;2=-;3=-;4=-;5=-;6=-;7=-");
+        check.due("decoy(0), a candidate without one", z.decoy(0), -1);
     }
 
     private static void possible(Check check) {
@@ -114,6 +132,8 @@ public final class SourcesTest {
         check.due("possible(), three are needed", x.possible(), 0);
         RumourSource y = Check.loaded("0>1*0+2;2>1*5+2;1=2");
         check.due("possible()", y.possible(), 1 + 6);
+        y.setEdge(0, 1, 2);
+        check.due("possible(), by a trust of 1", y.possible(), 2 + 6 + 5);
     }
 
     private static void explanation(Check check) {
@@ -133,6 +153,10 @@ public final class SourcesTest {
         check.due("explanation(1)", y.explanation(1), 1 + 4);
         y.setEdge(3, 5, 1);
         check.due("explanation(1), the likelier way", y.explanation(1), 2 + 8);
+        RumourSource w = Check.loaded("0>1*9+1;0>2*1+1;2>3*1+1");
+        check.due("explanation(1), neither the lowest nor the fullest", w.explanation(1), 1);
+        w.observe(3, 2);
+        check.due("explanation(1)", w.explanation(1), 1 + 2 + 4);
         RumourSource z = new RumourSource();
         check.due("explanation(1) without edges", z.explanation(1), 0);
         z.observe(0, -1);
@@ -147,6 +171,10 @@ public final class SourcesTest {
         check.due("values(2): 0, 1, 3, 5, never", x.values(2), 5);
         check.due("values(0)", x.values(0), 2);
         check.due("values(7)", x.values(7), 2);
+        RumourSource y = Check.loaded("0>1*5+1;0>2*5+2;2>1*1+1;0=0");
+        check.due("values(1) by the one source: 1, 3, never", y.values(1), 3);
+        RumourSource z = Check.loaded("0=-;1=-;2=-;3=-;4=-;5=-;6=-");
+        check.due("values(7), the only source", z.values(7), 1);
         x.observe(1, 2);
         check.due("values(1), observed", x.values(1), 1);
         check.due("values(2), which follows", x.values(2), 1);
