@@ -53,6 +53,10 @@ public final class SourcesTest {
         }
         check.due("likelihood(7), none works", x.likelihood(7), 2_176_782_336L);
         check.due("explanation(7)", x.explanation(7), 0);
+        check.due("timeBy(7, 4095, 6)", x.timeBy(7, 4095, 6), 1);
+        check.due("fits(7, 4095)", x.fits(7, 4095), 0);
+        check.holds("simulate(7, 5) reaches the start, and not 7",
+            x.simulate(7, 5) >= 3 && x.observed(7) == -1);
     }
 
     private static void candidates(Check check) {
@@ -69,6 +73,7 @@ public final class SourcesTest {
         check.due("candidates()", x.candidates(), 0);
         check.due("candidate(0)", x.candidate(0), -2);
         RumourSource y = new RumourSource();
+        check.due("candidates() of a new object", y.candidates(), 8);
         for (int rank = 0; rank < 8; rank++) {
             check.due("candidate(" + rank + ") of equal ones", y.candidate(rank), rank);
         }
@@ -86,6 +91,7 @@ public final class SourcesTest {
         }
         x.observe(1, 3);
         check.due("belief(5), no candidates", x.belief(5), 0);
+        check.due("belief(4) by a likelihood of 1", Check.loaded("4=0").belief(4), 1000);
         // 1000 times the greatest likelihood is far above an int
         RumourSource y = Check.loaded("0>1*10+1;1>2*10+1;2>3*10+1;3>4*10+1;4>5*10+1;5>6*10+1;"
             + "6>7*10+1;7>0*10+1;1>0*10+1;2>1*10+1;3>2*10+1;4>3*10+1");
