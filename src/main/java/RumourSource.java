@@ -660,33 +660,34 @@ public final class RumourSource {
                 met[node] = 0;
             }
             begin(start);
-            decide(scene, 0, 0, 0, 1);
+            decide(this, scene, 0, 0, 0, 1);
         }
 
         /** Decides of the next edge in both ways; each level decides of one, so depth is bounded. */
-        private void decide(Scene scene, int depth, int decided, int works, long weight) {
-            if (depth > MAX_EDGES || anyWillDo && total > 0) {
+        private static void decide(Spread spread, Scene scene, int depth, int decided, int works,
+                long weight) {
+            if (depth > MAX_EDGES || spread.anyWillDo && spread.total > 0) {
                 return;
             }
-            int edge = nextEdge(scene, decided);
-            int arrival = edge == NONE ? NEVER : arrivalBy(scene, edge);
-            if (!canBeAsWanted(arrival)) {
+            int edge = spread.nextEdge(scene, decided);
+            int arrival = edge == NONE ? NEVER : spread.arrivalBy(scene, edge);
+            if (!spread.canBeAsWanted(arrival)) {
                 return;
             }
             if (edge == NONE) {
-                collect(scene, decided, works, weight);
+                spread.collect(scene, decided, works, weight);
                 return;
             }
             int target = scene.to[edge];
             int trust = scene.trust[edge];
             int all = decided | 1 << edge;
             if (trust > 0 && isNode(target)) {
-                times[target] = arrival;
-                decide(scene, depth + 1, all, works | 1 << edge, weight * trust);
-                times[target] = NEVER;
+                spread.times[target] = arrival;
+                decide(spread, scene, depth + 1, all, works | 1 << edge, weight * trust);
+                spread.times[target] = NEVER;
             }
             if (trust < MAX_TRUST) {
-                decide(scene, depth + 1, all, works, weight * (MAX_TRUST - trust));
+                decide(spread, scene, depth + 1, all, works, weight * (MAX_TRUST - trust));
             }
         }
 

@@ -11,7 +11,7 @@ public final class LanguageTest {
         "\\b(import|package|protected|extends|implements|record|enum)\\b", "->", "::", "\\bExact\\b",
         "\\b(Exception|Error|Throwable|Thread|System|Random|Object|Math\\.\\w+Exact)\\b",
         "\\b(float|double|StringBuilder|ArrayList|List|Iterator)\\b", "\\bwhile \\(true\\)",
-        "\\bthis\\b", "\\bnull\\b", "\"", "@", "/[^/*]"
+        "\\bnull\\b", "\"", "@", "/[^/*]"
     };
 
     public static void main(String[] args) throws Exception {
