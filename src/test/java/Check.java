@@ -1,6 +1,8 @@
 /** Counts the answers of one test that are not as due, and ends it. */
 final class Check {
     private final String name;
+    private String about = "";
+    private int askedBefore = 0;
     private int asked = 0;
     private int wrong = 0;
 
@@ -12,7 +14,7 @@ final class Check {
         asked++;
         if (got != want) {
             wrong++;
-            System.out.println(name + ": " + call + " answered " + got + ", due is " + want);
+            System.out.println(name + about + ": " + call + " answered " + got + ", due is " + want);
         }
     }
 
@@ -20,8 +22,17 @@ final class Check {
         asked++;
         if (!is) {
             wrong++;
-            System.out.println(name + ": not so: " + what);
+            System.out.println(name + about + ": not so: " + what);
         }
+    }
+
+    /** What is asked from here on is the test of one sentence; that of the one before has ended. */
+    void begin(String sentence) {
+        if (!about.isEmpty()) {
+            holds("something is asked", asked > askedBefore);
+        }
+        about = sentence.isEmpty() ? "" : " [" + sentence + "]";
+        askedBefore = asked;
     }
 
     boolean anyWrong() {
@@ -29,10 +40,16 @@ final class Check {
     }
 
     void end() {
+        begin("");
         System.out.println(name + ": " + asked + " answers, " + wrong + " not as due");
         if (wrong > 0 || asked == 0) {
             System.exit(1);
         }
+    }
+
+    /** Values that lie just beyond a range, and the ones that lie farthest. */
+    static int[] beyond(int low, int high) {
+        return new int[] {low - 1, high + 1, Integer.MIN_VALUE, Integer.MAX_VALUE};
     }
 
     static void type(RumourSource x, String text) {
@@ -41,14 +58,38 @@ final class Check {
         }
     }
 
-    /** A new object that has loaded a text. */
-    static RumourSource loaded(String text) {
+    /** A new object with a text that is typed, and not loaded. */
+    static RumourSource typed(String text) {
         RumourSource x = new RumourSource();
         type(x, text);
+        return x;
+    }
+
+    /** A new object that has loaded a text. */
+    static RumourSource loaded(String text) {
+        RumourSource x = typed(text);
         if (x.load() < 0) {
             throw new IllegalStateException("the test's own text has a fault: " + text);
         }
         x.clearText();
         return x;
+    }
+
+    /** Adds as many of twelve edges, one after the other: trusts 0, 1, 2 .., delays 1, 2, 3 .. */
+    static RumourSource withEdges(int count) {
+        RumourSource x = new RumourSource();
+        for (int e = 0; e < count; e++) {
+            x.addEdge(from(e), to(e), e % 11, e % 5 + 1);
+        }
+        return x;
+    }
+
+    /** Edges 0 to 7 go around, from each node to the next one; edges 8 to 11 leave one out. */
+    static int from(int edge) {
+        return edge % 8;
+    }
+
+    static int to(int edge) {
+        return (edge + 1 + edge / 8) % 8;
     }
 }

@@ -7,8 +7,10 @@ import java.util.Random;
  * goes through all outcomes, one by one, with the times from each node to each.
  */
 public final class ModelTest {
-    private static final int RUNS = 240;
+    private static final int RUNS = 500;
     private static final int CALLS = 512;
+    /** A text of 120 bytes, and the calls before and behind it. */
+    private static final int CALLS_OF_A_TEXT = 125;
 
     public static void main(String[] args) {
         Check check = new Check("ModelTest");
@@ -25,6 +27,7 @@ public final class ModelTest {
         private final RumourSource x = new RumourSource();
         private final Model model = new Model();
         private final int most;
+        private int calls = 0;
 
         Run(Check check, int number) {
             this.check = check;
@@ -34,11 +37,11 @@ public final class ModelTest {
         }
 
         void go() {
-            for (int call = 0; call < CALLS && !check.anyWrong(); call++) {
+            while (calls < CALLS && !check.anyWrong()) {
                 int kind = random.nextInt(100);
-                if (kind < 40) {
+                if (kind < 44) {
                     change();
-                } else if (kind < 52) {
+                } else if (kind < 50 && calls + CALLS_OF_A_TEXT <= CALLS) {
                     text();
                 } else {
                     ask();
@@ -47,6 +50,7 @@ public final class ModelTest {
         }
 
         private void due(String call, long got, long want) {
+            calls++;
             check.due("run " + number + ": " + call, got, want);
         }
 
@@ -131,7 +135,7 @@ public final class ModelTest {
                 due("clearText()", x.clearText(), model.clearText());
             }
             String items = items();
-            for (int i = 0; i < items.length(); i++) {
+            for (int i = 0; i < Math.min(items.length(), 120); i++) {
                 due("type(" + (int) items.charAt(i) + ")", x.type(items.charAt(i)),
                     model.type(items.charAt(i)));
             }

@@ -42,109 +42,109 @@ public final class TextTest {
         check.due("textFault() of the new text", x.textFault(), -1);
     }
 
-    private static void fault(Check check, RumourSource x, String text, int want) {
+    /** Each text in an object of its own, so that none is used for too many calls. */
+    private static void fault(Check check, String text, int want) {
+        check.due("textFault() of '" + text + "'", Check.typed(text).textFault(), want);
+    }
+
+    private static void nextFault(Check check, RumourSource x, String text, int want) {
         x.clearText();
         Check.type(x, text);
         check.due("textFault() of '" + text + "'", x.textFault(), want);
     }
 
     private static void grammar(Check check) {
-        RumourSource x = new RumourSource();
         String edge = "0>1*9+1";
         for (int length = 0; length < edge.length(); length++) {
-            fault(check, x, edge.substring(0, length), length);
+            fault(check, edge.substring(0, length), length);
         }
-        fault(check, x, edge, -1);
-        fault(check, x, edge + ";", 8);
-        fault(check, x, edge + ";7", 9);
-        fault(check, x, edge + ";7=", 10);
-        fault(check, x, edge + ";7=-", -1);
-        fault(check, x, edge + ";7=-;6=3", -1);
-        fault(check, x, ";", 0);
-        fault(check, x, "0=1;;1=1", 4);
-        fault(check, x, "8=1", 0);
-        fault(check, x, "-=1", 0);
-        fault(check, x, "0-1", 1);
-        fault(check, x, "00=1", 1);
-        fault(check, x, "0>8*1+1", 2);
-        fault(check, x, "0>-*1+1", 2);
-        fault(check, x, "0>1+1*1", 3);
-        fault(check, x, "0>12*1+1", 3);
-        fault(check, x, "0>1*-+1", 4);
-        fault(check, x, "0>1*1*1", 5);
-        fault(check, x, "0>1*1+-", 6);
-        fault(check, x, "0>1*1+1=", 7);
-        fault(check, x, "0=--", 3);
-        fault(check, x, "0=-1", 3);
-        fault(check, x, "0=1-", 3);
-        fault(check, x, "0=+1", 2);
-        fault(check, x, "0=1,1=1", 3);
+        fault(check, edge, -1);
+        fault(check, edge + ";", 8);
+        fault(check, edge + ";7", 9);
+        fault(check, edge + ";7=", 10);
+        fault(check, edge + ";7=-", -1);
+        fault(check, edge + ";7=-;6=3", -1);
+        fault(check, ";", 0);
+        fault(check, "0=1;;1=1", 4);
+        fault(check, "8=1", 0);
+        fault(check, "-=1", 0);
+        fault(check, "0-1", 1);
+        fault(check, "00=1", 1);
+        fault(check, "0>8*1+1", 2);
+        fault(check, "0>-*1+1", 2);
+        fault(check, "0>1+1*1", 3);
+        fault(check, "0>12*1+1", 3);
+        fault(check, "0>1*-+1", 4);
+        fault(check, "0>1*1*1", 5);
+        fault(check, "0>1*1+-", 6);
+        fault(check, "0>1*1+1=", 7);
+        fault(check, "0=--", 3);
+        fault(check, "0=-1", 3);
+        fault(check, "0=1-", 3);
+        fault(check, "0=+1", 2);
+        fault(check, "0=1,1=1", 3);
     }
 
     private static void blanks(Check check) {
-        RumourSource x = new RumourSource();
-        fault(check, x, "  0  >  1  *  9  +  1  ;  7  =  -  ", -1);
-        fault(check, x, " ", 1);
-        fault(check, x, "   ", 3);
-        fault(check, x, "0=1; ", 5);
-        fault(check, x, "0=1 2", 4);
-        fault(check, x, "0= 12 ", -1);
-        fault(check, x, "0>1*1 0+1", 6);
-        fault(check, x, "0>1* 11 +1", 5);
-        fault(check, x, "0 > 0", 4);
-        fault(check, x, "0\t=1", 1);
-        fault(check, x, "0= ", 3);
+        fault(check, "  0  >  1  *  9  +  1  ;  7  =  -  ", -1);
+        fault(check, " ", 1);
+        fault(check, "   ", 3);
+        fault(check, "0=1; ", 5);
+        fault(check, "0=1 2", 4);
+        fault(check, "0= 12 ", -1);
+        fault(check, "0>1*1 0+1", 6);
+        fault(check, "0>1* 11 +1", 5);
+        fault(check, "0 > 0", 4);
+        fault(check, "0\t=1", 1);
+        fault(check, "0= ", 3);
     }
 
     private static void numbers(Check check) {
-        RumourSource x = new RumourSource();
-        fault(check, x, "0>1*0+1", -1);
-        fault(check, x, "0>1*00+01", -1);
-        fault(check, x, "0>1*10+05", -1);
-        fault(check, x, "0>1*11+1", 4);
-        fault(check, x, "0>1*11", 4);
-        fault(check, x, "0>1*10", 6);
-        fault(check, x, "0>1*99x", 4);
-        fault(check, x, "0>1*010+1", 4);
-        fault(check, x, "0>1*1+0", 6);
-        fault(check, x, "0>1*1+00", 6);
-        fault(check, x, "0>1*1+6", 6);
-        fault(check, x, "0>1*1+10", 6);
-        fault(check, x, "0>1*1+005", 6);
-        fault(check, x, "0=30", -1);
-        fault(check, x, "0=31", 2);
-        fault(check, x, "0=00", -1);
-        fault(check, x, "0=000", 2);
-        fault(check, x, "0=030", 2);
-        fault(check, x, "0=4294967297", 2);
-        fault(check, x, "0=1;1=31;9", 6);
+        fault(check, "0>1*0+1", -1);
+        fault(check, "0>1*00+01", -1);
+        fault(check, "0>1*10+05", -1);
+        fault(check, "0>1*11+1", 4);
+        fault(check, "0>1*11", 4);
+        fault(check, "0>1*10", 6);
+        fault(check, "0>1*99x", 4);
+        fault(check, "0>1*010+1", 4);
+        fault(check, "0>1*1+0", 6);
+        fault(check, "0>1*1+00", 6);
+        fault(check, "0>1*1+6", 6);
+        fault(check, "0>1*1+10", 6);
+        fault(check, "0>1*1+005", 6);
+        fault(check, "0=30", -1);
+        fault(check, "0=31", 2);
+        fault(check, "0=00", -1);
+        fault(check, "0=000", 2);
+        fault(check, "0=030", 2);
+        fault(check, "0=4294967297", 2);
+        fault(check, "0=1;1=31;9", 6);
         StringBuilder zeros = new StringBuilder("0=");
         while (zeros.length() < 120) {
             zeros.append('0');
         }
-        fault(check, x, zeros.toString(), 2);
+        fault(check, zeros.toString(), 2);
     }
 
     private static void edgesThatCannotBe(Check check) {
-        RumourSource x = new RumourSource();
-        fault(check, x, "3>3*1+1", 2);
-        fault(check, x, "3>3", 2);
-        fault(check, x, TWELVE, -1);
-        fault(check, x, TWELVE + ";5>7*1+1", 98);
-        fault(check, x, TWELVE + ";5>5", 98);
-        fault(check, x, TWELVE + ";5>6*2+2", -1);
-        fault(check, x, TWELVE + ";5=5", -1);
-        x.clearText();
-        Check.type(x, TWELVE);
+        fault(check, "3>3*1+1", 2);
+        fault(check, "3>3", 2);
+        fault(check, TWELVE, -1);
+        fault(check, TWELVE + ";5>7*1+1", 98);
+        fault(check, TWELVE + ";5>5", 98);
+        fault(check, TWELVE + ";5>6*2+2", -1);
+        fault(check, TWELVE + ";5=5", -1);
+        RumourSource x = Check.typed(TWELVE);
         check.due("load()", x.load(), 12);
-        fault(check, x, "5>7*1+1", 2);
-        fault(check, x, "5 > 7", 4);
-        fault(check, x, "3>5*2+3", -1);
+        nextFault(check, x, "5>7*1+1", 2);
+        nextFault(check, x, "5 > 7", 4);
+        nextFault(check, x, "3>5*2+3", -1);
         x.removeEdge(11);
-        fault(check, x, "5>7*1+1", -1);
-        fault(check, x, "5>7*1+1;3>5*1+1", 10);
-        fault(check, x, "5>7*1+1;5>7*2+1", -1);
-        fault(check, x, "5=7;5>7*1+1;5>6*2+1;6>0*1+1", 22);
+        nextFault(check, x, "5>7*1+1", -1);
+        nextFault(check, x, "5>7*1+1;3>5*1+1", 10);
+        nextFault(check, x, "5>7*1+1;5>7*2+1", -1);
+        nextFault(check, x, "5=7;5>7*1+1;5>6*2+1;6>0*1+1", 22);
     }
 
     /** Behind each head every byte: it goes on, or it ends an item that is whole, or is the fault. */
@@ -155,11 +155,9 @@ public final class TextTest {
             {"0>1*1+1 ", ";", " "}, {"0=", " ", "-0123456789"}, {"0=1 ", ";", " "},
             {"0=-", ";", " "}, {"0=-;", " 01234567", ""}
         };
-        RumourSource x = new RumourSource();
         for (String[] row : heads) {
             for (int code = 0; code < 256; code++) {
-                x.clearText();
-                Check.type(x, row[0]);
+                RumourSource x = Check.typed(row[0]);
                 x.type(code);
                 int want = row[0].length();
                 if (row[1].indexOf((char) code) >= 0) {
