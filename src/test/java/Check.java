@@ -1,5 +1,7 @@
 /** Counts the answers of one test that are not as due, and ends it. */
 final class Check {
+    private static int notLoaded = 0;
+
     private final String name;
     private String about = "";
     private int askedBefore = 0;
@@ -42,7 +44,7 @@ final class Check {
     void end() {
         begin("");
         System.out.println(name + ": " + asked + " answers, " + wrong + " not as due");
-        if (wrong > 0 || asked == 0) {
+        if (wrong > 0 || asked == 0 || notLoaded > 0) {
             System.exit(1);
         }
     }
@@ -65,11 +67,13 @@ final class Check {
         return x;
     }
 
-    /** A new object that has loaded a text. */
+    /** A new object that has loaded a text; if it can't, that is told, and the test goes on. */
     static RumourSource loaded(String text) {
         RumourSource x = typed(text);
-        if (x.load() < 0) {
-            throw new IllegalStateException("the test's own text has a fault: " + text);
+        int answer = x.load();
+        if (answer < 0) {
+            notLoaded++;
+            System.out.println("load() of the test's own text '" + text + "' answered " + answer);
         }
         x.clearText();
         return x;

@@ -196,6 +196,10 @@ final class DescriptionSentences {
         }
         check.due("timeBy(1, 4096, 0)", y.timeBy(1, 4096, 0), -3);
         check.due("timeBy(1, -1, 0)", y.timeBy(1, -1, 0), -3);
+        y.removeEdge(11);
+        check.due("timeBy(1, 2047, 0), all of eleven", y.timeBy(1, 2047, 0), 0);
+        check.due("timeBy(1, 2048, 0), an edge that isn't there", y.timeBy(1, 2048, 0), -3);
+        check.due("weight(2048)", y.weight(2048), -3);
     }
 
     private static void weights(Check check) {
@@ -361,6 +365,13 @@ final class DescriptionSentences {
         x.observe(2, -1);
         check.due("fits(1, 3), never heard for the horizon", x.fits(1, 3), 1);
         check.due("likelihood(1)", x.likelihood(1), 50);
+        RumourSource y = Check.loaded("0>1*0+3;2=0");
+        check.due("fits(1, 1), 2 isn't in the start", y.fits(1, 1), 0);
+        check.due("likelihood(1), 2 isn't in the start", y.likelihood(1), 0);
+        check.due("fits(5, 1), 2 is in the start", y.fits(5, 1), 1);
+        check.due("likelihood(5), 2 is in the start", y.likelihood(5), 10);
+        y.observe(1, 3);
+        check.due("fits(5, 1), though of the weight 0", y.fits(5, 1), 1);
     }
 
     private static void likelihood(Check check) {
@@ -420,6 +431,7 @@ final class DescriptionSentences {
         check.due("explanation(1), all are equal", even.explanation(1), 0);
         RumourSource odd = Check.loaded("0>1*6+1;1>2*5+1;2>3*4+1;3>4*10+1;4>5*0+1");
         check.due("explanation(1), the greatest weight", odd.explanation(1), 1 + 8);
+        check.due("explanation(128), where no edge matters", odd.explanation(128), 1 + 8);
         RumourSource x = Check.loaded("0>2*4+1;0>1*4+1;2>3*4+1;1>3*4+1;3=2");
         check.due("explanation(1), the lowest of two", x.explanation(1), 1 + 4);
         x.setEdge(1, 5, 1);
@@ -505,6 +517,10 @@ final class DescriptionSentences {
         RumourSource y = new RumourSource();
         check.due("decoy(0), all are equal", y.decoy(0), 1);
         check.due("decoy(1), all are equal", y.decoy(1), 0);
+        // neither 1 nor 2 is a candidate: what counts is the start of both
+        RumourSource z = Check.loaded("0>5*10+1;1>6*3+1;2>6*8+1;5=1;6=1");
+        check.due("candidates()", z.candidates(), 0);
+        check.due("decoy(0), the likelier one with 0", z.decoy(0), 2);
     }
 
     // ---- simulation

@@ -353,7 +353,7 @@ final class SourceSentences {
     }
 
     private static void explanationBad(Check check) {
-        RumourSource none = Check.loaded("0=0;1=0");
+        RumourSource none = Check.loaded("0=0;1=0;2=0");
         for (int bad : Check.beyond(1, 255)) {
             check.due("explanation(" + bad + ")", Check.withEdges(3).explanation(bad), -3);
             check.due("explanation(" + bad + "), not possible", none.explanation(bad), -3);

@@ -362,9 +362,12 @@ final class TextSentences {
         check.due("type('x') as the byte 120", x.type('x'), 120);
         check.due("type('y') as the byte 121", x.type('y'), -5);
         check.due("type('y') again", x.type('y'), -5);
-        check.due("textFault(), which no byte has changed", x.textFault(), 119);
+        check.due("textFault(), where 'x' stands", x.textFault(), 119);
         check.due("clearText()", x.clearText(), 120);
         check.due("type('0')", x.type('0'), 1);
+        RumourSource y = Check.typed("0=1" + " ".repeat(117));
+        check.due("type('x') as the byte 121", y.type('x'), -5);
+        check.due("textFault(), no byte has changed", y.textFault(), -1);
     }
 
     private static void empties(Check check) {
@@ -431,6 +434,11 @@ final class TextSentences {
         check.due("load()", x.load(), 2);
         check.due("observed(7), of which no item tells", x.observed(7), 7);
         check.due("setHorizon(20), of which no item tells", x.setHorizon(20), 3);
+        RumourSource z = Check.typed("0>1*9+1");
+        z.addEdge(5, 6, 7, 3);
+        check.due("load(), to an edge of which no item tells", z.load(), 2);
+        check.due("edge(0, 2), which is left", z.edge(0, 2), 7);
+        check.due("edge(1, 2)", z.edge(1, 2), 9);
         RumourSource y = Check.typed(TWELVE);
         check.due("load() of twelve edges", y.load(), 12);
         check.due("edge(11, 0)", y.edge(11, 0), 3);
